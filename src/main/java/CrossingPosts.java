@@ -231,7 +231,7 @@ public final class CrossingPosts {
         if (!isDay(day) || !isSession(session) || !isWithin(what, 0, 1)) {
             throw new IllegalArgumentException("day, session or what is out of range");
         }
-        roster.drawOwn(state, day, session);
+        roster.drawOwn(state, state.neededPosts(day, session), state.wellGuards(day));
         replacements.find(state, roster);
         return what == 0 ? replacements.leastOpen : replacements.leastSum;
     }
@@ -535,7 +535,7 @@ public final class CrossingPosts {
         }
 
         int distanceFrom(int place) {
-            return Math.abs(home - place);
+            return home >= place ? home - place : place - home;
         }
 
         void standAt(int post, int place) {
@@ -669,7 +669,7 @@ public final class CrossingPosts {
                 return false;
             }
             for (int i = 0; i < holidayCount; i++) {
-                if (isWithin(day, firstDays[i], lastDays[i])) {
+                if (day >= firstDays[i] && day <= lastDays[i]) {
                     return false;
                 }
             }
@@ -798,24 +798,29 @@ public final class CrossingPosts {
         int freeGuards;
 
         void draw(State state, int day, int session) {
-            drawOwn(state, day, session);
-            if (neededPosts != 0) {
-                drawOthers(state, true);
-                drawOthers(state, false);
+            drawOwn(state, state.neededPosts(day, session), state.wellGuards(day));
+            for (int turn = 0; turn < 2; turn++) {
+                boolean isPriorityTurn = turn == 0;
+                for (int p = 0; p < state.postCount; p++) {
+                    Post post = state.posts[p];
+                    if (lacksGuard(p) && post.hasPriority(state.next) == isPriorityTurn) {
+                        placeOrLeaveOpen(nearest(state, post.place), p);
+                    }
+                }
             }
         }
 
         /** Puts the guards at their own posts alone. */
-        void drawOwn(State state, int day, int session) {
+        void drawOwn(State state, int needed, int well) {
             Arrays.fill(guardAt, NONE);
             Arrays.fill(reasons, 0);
             openPosts = 0;
-            neededPosts = state.neededPosts(day, session);
-            wellGuards = state.wellGuards(day);
-            freeGuards = wellGuards;
+            neededPosts = needed;
+            wellGuards = well;
+            freeGuards = well;
             for (int g = 0; g < state.guardCount; g++) {
                 int own = state.guards[g].own;
-                if (own >= 0 && own < MOST_POSTS && isIn(wellGuards, g) && isIn(neededPosts, own)) {
+                if (own >= 0 && own < MOST_POSTS && isIn(well, g) && isIn(needed, own)) {
                     place(g, own);
                 }
             }
@@ -826,18 +831,12 @@ public final class CrossingPosts {
             freeGuards &= ~(1 << guard);
         }
 
-        private void drawOthers(State state, boolean withPriority) {
-            for (int p = 0; p < state.postCount; p++) {
-                Post post = state.posts[p];
-                if (lacksGuard(p) && post.hasPriority(state.next) == withPriority) {
-                    int guard = nearest(state, post.place);
-                    if (guard == NONE) {
-                        openPosts |= 1 << p;
-                        reasons[p] = reasonNow();
-                    } else {
-                        place(guard, p);
-                    }
-                }
+        private void placeOrLeaveOpen(int guard, int post) {
+            if (guard == NONE) {
+                openPosts |= 1 << post;
+                reasons[post] = reasonNow();
+            } else {
+                place(guard, post);
             }
         }
 
