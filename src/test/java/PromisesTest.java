@@ -531,6 +531,34 @@ public final class PromisesTest {
         check.is(8, () -> full.best(0, 0, 1));
     }
 
+    private void bestChoices() {
+        // one guard for two posts: the nearer one, whichever its number
+        CrossingPosts x = street(at(40, 20, 30), at(28), 15);
+        check.is(2, () -> x.best(0, 0, 0));
+        check.is(2, () -> x.best(0, 0, 1));
+        // nobody reaches post 0
+        x.addGuard(0, 39, NONE);
+        x.addGuard(99, 58, NONE);
+        check.is(1, () -> x.best(0, 0, 0));
+        check.is(22, () -> x.best(0, 0, 1));
+        x.addGuard(99, 59, NONE);
+        check.is(0, () -> x.best(0, 0, 0));
+        check.is(81, () -> x.best(0, 0, 1));
+        // more posts filled count more than a smaller sum
+        CrossingPosts y = street(at(0, 50));
+        y.addGuard(0, 99, NONE);
+        y.addGuard(99, 99, NONE);
+        check.is(0, () -> y.best(0, 0, 0));
+        check.is(49, () -> y.best(0, 0, 1));
+        y.sick(1, 1);
+        check.is(1, () -> y.best(0, 0, 0));
+        check.is(0, () -> y.best(0, 0, 1));
+        // a guard who stands at the own post, far away, adds nothing
+        y.setPost(0, 1);
+        check.is(0, () -> y.best(1, 1, 0));
+        check.is(99, () -> y.best(1, 1, 1));
+    }
+
     private void missed() {
         CrossingPosts x = street(at(10, 20), at(10, 20, 90), 9);
         check.bounds(() -> x.missed(3, 0));
@@ -547,11 +575,18 @@ public final class PromisesTest {
         x.addGuard(10, 20, NONE);
         check.is(0, () -> x.missed(0, 2));
         check.is(2, () -> x.guard(0, 7));
-        // without guard 0, guard 1 goes to post 0, and more are filled
-        CrossingPosts odd = street(at(10, 20, 30));
-        odd.addGuard(11, 9, 2);
-        odd.addGuard(10, 20, NONE);
-        check.is(2, () -> odd.missed(0, 0));
+        // only the two sessions of the day count
+        CrossingPosts near = street(at(10), at(10), 0);
+        near.setNeeds(0, 1 << 1 | 1 << 4);
+        check.is(0, () -> near.missed(0, 1));
+        check.is(1, () -> near.missed(0, 0));
+        // without guard 0, nobody is left for post 2
+        CrossingPosts own = street(at(10, 20, 30));
+        own.addGuard(11, 9, 2);
+        own.addGuard(10, 20, NONE);
+        check.is(2, () -> own.missed(0, 0));
+        check.is(2, () -> own.missed(1, 0));
+        check.is(2, () -> own.missed(1, 3000));
     }
 
     private void daysToOpen() {
@@ -575,6 +610,17 @@ public final class PromisesTest {
         check.is(60, x::daysToOpen);
         x.sick(0, 60);
         check.is(58, x::daysToOpen);
+        // a Monday morning, open on day 70 alone: 61 days, 60 days
+        CrossingPosts edge = street(at(10));
+        edge.setNeeds(0, 1);
+        edge.addHoliday(1, 69);
+        check.is(0, edge::daysToOpen);
+        goTo(edge, 9);
+        check.is(NONE, edge::daysToOpen);
+        edge.step();
+        check.is(NONE, edge::daysToOpen);
+        edge.step();
+        check.is(60, edge::daysToOpen);
         CrossingPosts end = new CrossingPosts();
         goTo(end, 3000);
         end.pass(1);
@@ -616,6 +662,15 @@ public final class PromisesTest {
         x.addGuard(0, 0, NONE);
         check.state(() -> x.bestHome(0));
         check.argument(() -> x.bestHome(3001));
+        check.is(0, () -> street(at(20)).bestHome(0));
+        check.is(1, () -> street(at(21)).bestHome(0));
+        check.is(2, () -> street(at(22)).bestHome(0));
+        check.is(79, () -> street(at(99)).bestHome(0));
+        // nearer homes than 99 take post 0 from guard 0, who cannot reach post 1
+        CrossingPosts far = street(at(80, 99), at(62), 18);
+        goTo(far, 14);
+        check.is(1, () -> far.guard(0, 3));
+        check.is(99, () -> far.bestHome(14));
         // the one guard more has step 0 and the highest number
         CrossingPosts y = street(at(50, 80), at(50), 99);
         check.is(60, () -> y.bestHome(0));
@@ -781,6 +836,101 @@ public final class PromisesTest {
         check.is(before, y::digest);
     }
 
+    /** What is added again after undo has nothing of what was there before. */
+    private void addedAgain() {
+        CrossingPosts x = new CrossingPosts();
+        x.addPost(10, ALL);
+        x.step();
+        x.complain(0);
+        x.step();
+        for (int i = 0; i < 4; i++) x.undo();
+        x.addPost(11, 7);
+        int[] post = {11, 7, NONE, 0, 0, NONE, 0, NONE, 0};
+        for (int what = 0; what < 9; what++) {
+            int asked = what;
+            check.is(post[asked], () -> x.post(0, asked));
+        }
+        x.setNeeds(0, ALL);
+        x.step();
+        check.is(1, () -> x.complain(0));
+
+        CrossingPosts y = street(at(10, 20));
+        y.addGuard(10, 10, 0);
+        y.pass(15);
+        y.setNeeds(0, 0);
+        y.undo();
+        y.undo();
+        y.undo();
+        y.addGuard(10, 10, 0);
+        y.setNeeds(0, 0);
+        y.pass(15);
+        y.sick(0, 9);
+        for (int i = 0; i < 4; i++) y.undo();
+        y.addGuard(9, 8, 1);
+        int[] guard = {9, 8, 1, 0, 0, 0, 0, 0, 0, 0, 20};
+        for (int what = 0; what < 11; what++) {
+            int asked = what;
+            check.is(guard[asked], () -> y.guard(0, asked));
+        }
+    }
+
+    private void restored() {
+        CrossingPosts x = street(at(10, 20, 30), at(10, 20), 5);
+        x.setPost(0, 0);
+        x.addHoliday(4, 9);
+        x.pass(3);
+        x.complain(2);
+        long before = x.digest();
+        int due = x.open(3, 0);
+        x.sick(1, 1);
+        x.pass(1);
+        x.setPost(0, 1);
+        x.setNeeds(2, 0);
+        for (int i = 0; i < 4; i++) x.undo();
+        check.is(6, () -> x.guard(0, 8));
+        check.is(6, () -> x.guard(1, 9));
+        check.is(6, () -> x.post(2, 3));
+        check.is(5, () -> x.post(2, 5));
+        check.is(1, () -> x.post(2, 6));
+        check.is(2, () -> x.post(2, 8));
+        check.is(due, () -> x.open(3, 0));
+        check.state(() -> x.complain(2));
+        for (int i = 0; i < 4; i++) x.setNeeds(2, ALL);
+        check.is(before, x::digest);
+    }
+
+    /** An object with as much in it as there can be. */
+    private void full() {
+        CrossingPosts x = new CrossingPosts();
+        for (int i = 0; i < 6; i++) x.addHoliday(7 * i + 1, 7 * i + 2);
+        for (int p = 0; p < 8; p++) x.addPost(11 * p, ALL);
+        for (int g = 0; g < 10; g++) x.addGuard(9 * g, 99, g < 8 ? g : NONE);
+        check.is(0, x::step);
+        check.is(0, () -> x.pass(1));
+        check.is(0, () -> x.open(7, 0));
+        check.is(0, () -> x.open(8, 0));
+        check.is(255, () -> x.needed(7, 1));
+        check.is(0, () -> x.best(7, 0, 0));
+        check.is(0, () -> x.missed(9, 7));
+        check.is(NONE, x::daysToOpen);
+        for (int g = 0; g < 10; g++) x.sick(g, 8);
+        check.is(0, () -> x.post(7, 8));
+        check.is(255, () -> x.open(7, 0));
+        check.is(8, () -> x.best(7, 0, 0));
+        // days 1 and 2 are a holiday; days 3, 4 and 7 are school days
+        check.is(2, x::daysToOpen);
+        check.is(48, () -> x.pass(7));
+        check.is(1, () -> x.post(7, 8));
+        check.is(1, () -> x.complain(7));
+        write(x, "c0;c6;s9,2;d1;");
+        check.is(4, x::carryOut);
+        check.is(9, () -> x.value(3));
+        check.is(3, x::undo);
+        check.is(8, () -> x.value(3));
+        check.is(6, () -> x.value(0));
+        check.is(0.25, x::filled);
+    }
+
     private void digest() {
         CrossingPosts x = street(at(10, 20), at(30), 15);
         x.addHoliday(1, 2);
@@ -841,6 +991,7 @@ public final class PromisesTest {
         standing();
         check.title("promise 18");
         best();
+        bestChoices();
         check.title("promise 19");
         missed();
         check.title("promise 20");
@@ -859,6 +1010,9 @@ public final class PromisesTest {
         carryOut();
         check.title("promise 26");
         undo();
+        addedAgain();
+        restored();
+        full();
         check.title("promise 27");
         digest();
         check.end();
