@@ -679,6 +679,16 @@ public final class PromisesTest {
         y.setNeeds(1, ALL);
         check.is(1, () -> y.guard(0, 3));
         check.is(50, () -> y.bestHome(14));
+        // nothing of an earlier guard, or of an earlier question, sticks to it
+        y.addGuard(50, 20, NONE);
+        check.is(NONE, y::daysToOpen);
+        y.undo();
+        check.is(50, () -> y.bestHome(14));
+        y.addGuard(50, 20, NONE);
+        check.is(2, () -> y.missed(1, 14));
+        y.undo();
+        check.is(50, () -> y.bestHome(14));
+        check.is(50, () -> y.bestHome(14));
     }
 
     private void filled() {
@@ -929,6 +939,10 @@ public final class PromisesTest {
         check.is(8, () -> x.value(3));
         check.is(6, () -> x.value(0));
         check.is(0.25, x::filled);
+        check.is(1, () -> x.value(8));
+        check.is(160, () -> x.value(9));
+        check.is(10, () -> x.value(10));
+        check.is(true, () -> x.digest() == x.digest());
     }
 
     private void digest() {
