@@ -11,6 +11,16 @@ final class Check {
         title = next;
     }
 
+    /** A test of its own, of the sentence that is its title: a call that throws in it does not end the others. */
+    void test(String sentence, Runnable body) {
+        title(sentence);
+        try {
+            body.run();
+        } catch (RuntimeException e) {
+            report("throws " + e.getClass().getSimpleName(), "nothing thrown", e);
+        }
+    }
+
     void is(Object due, Call call) {
         String got;
         try {
@@ -18,12 +28,20 @@ final class Check {
         } catch (RuntimeException e) {
             got = "throws " + e.getClass().getSimpleName();
         }
-        if (!got.equals(String.valueOf(due))) {
-            wrong++;
-            StackTraceElement at = new Throwable().getStackTrace()[1];
-            if (at.getClassName().equals("Check")) at = new Throwable().getStackTrace()[2];
-            System.out.println(title + ", line " + at.getLineNumber() + ": " + got + ", due is " + due);
+        if (!got.equals(String.valueOf(due))) report(got, String.valueOf(due), new Throwable());
+    }
+
+    private void report(String got, String due, Throwable from) {
+        wrong++;
+        System.out.println(title + ", line " + testLine(from.getStackTrace()) + ": " + got + ", due is " + due);
+    }
+
+    /** The line of the test, not of what the tests share. */
+    private static int testLine(StackTraceElement[] trace) {
+        for (StackTraceElement at : trace) {
+            if (at.getClassName().endsWith("Test")) return at.getLineNumber();
         }
+        return 0;
     }
 
     void argument(Call call) {

@@ -15,6 +15,8 @@ public final class FaceTest {
     private static final String ARGUMENT = "IllegalArgumentException";
     private static final String STATE = "IllegalStateException";
 
+    private static final String CONSTANT = "public static final int NONE";
+
     private static final String[] FACE = {
         "public CrossingPosts()",
         "public int addHoliday(int, int) throws " + ARGUMENT + ", " + STATE,
@@ -86,9 +88,14 @@ public final class FaceTest {
                 publicNames.add(m.getName());
             }
         }
+        boolean hasConstant = false;
         for (Field f : face.getDeclaredFields()) {
-            if (isOutside(f) && !f.getName().equals("NONE")) wrong.add("field " + f.getName());
+            if (!isOutside(f)) continue;
+            String field = Modifier.toString(f.getModifiers()) + " " + f.getType() + " " + f.getName();
+            if (field.equals(CONSTANT)) hasConstant = true;
+            else wrong.add("too much: " + field);
         }
+        if (!hasConstant) wrong.add("missing: " + CONSTANT);
         Set<String> due = new TreeSet<>(Arrays.asList(FACE));
         for (String line : due) if (!got.contains(line)) wrong.add("missing: " + line);
         for (String line : got) if (!due.contains(line)) wrong.add("too much: " + line);
@@ -101,7 +108,10 @@ public final class FaceTest {
                 wrong.add("class " + inside.getSimpleName());
             }
             for (Method m : inside.getDeclaredMethods()) {
-                if (publicNames.contains(m.getName())) wrong.add(inside.getSimpleName() + "." + m.getName());
+                boolean isHidden = Modifier.isPrivate(m.getModifiers()) && !m.isSynthetic();
+                if (isHidden && publicNames.contains(m.getName())) {
+                    wrong.add("private " + inside.getSimpleName() + "." + m.getName());
+                }
             }
         }
         if (face.getModifiers() != (Modifier.PUBLIC | Modifier.FINAL)) wrong.add("the class is not public and final");

@@ -1,42 +1,5 @@
 /** For each promise of the document: ordinary inputs, its edges, and wrong inputs. */
-public final class PromisesTest {
-    private static final int NONE = CrossingPosts.NONE;
-    private static final int ALL = 1023;
-    private static final int LOW = Integer.MIN_VALUE;
-    private static final int HIGH = Integer.MAX_VALUE;
-
-    private final Check check = new Check();
-
-    /** Posts and guards of a street: no guard has a post. */
-    private static CrossingPosts street(int[] places, int[] homes, int reach) {
-        CrossingPosts x = new CrossingPosts();
-        for (int place : places) x.addPost(place, ALL);
-        for (int home : homes) x.addGuard(home, reach, NONE);
-        return x;
-    }
-
-    private static CrossingPosts street(int[] places) {
-        return street(places, new int[0], 0);
-    }
-
-    private static int[] at(int... numbers) {
-        return numbers;
-    }
-
-    private static void write(CrossingPosts x, String text) {
-        x.clearText();
-        for (int i = 0; i < text.length(); i++) x.append(text.charAt(i));
-    }
-
-    private static void steps(CrossingPosts x, int times) {
-        for (int i = 0; i < times; i++) x.step();
-    }
-
-    /** Brings a new object to session 0 of a day. */
-    private static void goTo(CrossingPosts x, int day) {
-        while (x.value(3) < day) x.pass(Math.min(60, day - x.value(3)));
-    }
-
+public final class PromisesTest extends Cases {
     private void newObject() {
         CrossingPosts x = new CrossingPosts();
         for (int what = 0; what <= 10; what++) {

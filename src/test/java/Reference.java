@@ -510,8 +510,9 @@ final class Reference {
         for (int home = 99; home >= 0; home--) {
             World other = now.copy();
             other.guards.add(new GuardRow(home, 20, -1));
-            if (openOn(other, day) <= least) {
-                least = openOn(other, day);
+            int open = openOn(other, day);
+            if (open <= least) {
+                least = open;
                 chosen = home;
             }
         }
