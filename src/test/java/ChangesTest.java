@@ -637,8 +637,8 @@ public final class ChangesTest extends Cases {
         x.addHoliday(40, 45);
         x.addPost(5, 5);
         x.pass(20);
-        write(x, "s1,5;c2;d1;");
-        check.is(3, x::carryOut);
+        write(x, "s0,5;d1;");
+        check.is(2, x::carryOut);
         for (int remain = 3; remain >= 0; remain--) x.undo();
         postIs(x, 1, post);
         guardIs(x, 0, guard);
@@ -647,7 +647,7 @@ public final class ChangesTest extends Cases {
         bounds(x, () -> x.holiday(2, false));
         // there was a complaint about post 1 just before
         state(x, () -> x.complain(1));
-        check.is(11, x::clearText);
+        check.is(8, x::clearText);
     }
 
     private void changedAndRestored() {

@@ -36,12 +36,18 @@ final class Check {
         System.out.println(title + ", line " + testLine(from.getStackTrace()) + ": " + got + ", due is " + due);
     }
 
-    /** The line of the test, not of what the tests share. */
+    /** The line in the body of test(), else the first one of a test, not of what the tests share. */
     private static int testLine(StackTraceElement[] trace) {
+        int first = 0;
+        int latest = 0;
         for (StackTraceElement at : trace) {
-            if (at.getClassName().endsWith("Test")) return at.getLineNumber();
+            if (at.getClassName().equals("Check") && at.getMethodName().equals("test")) return latest;
+            if (at.getClassName().endsWith("Test")) {
+                latest = at.getLineNumber();
+                first = first == 0 ? latest : first;
+            }
         }
-        return 0;
+        return first;
     }
 
     void argument(Call call) {

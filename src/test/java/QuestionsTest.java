@@ -869,10 +869,12 @@ public final class QuestionsTest extends Cases {
         check.is(1, () -> x.guard(0, 3));
         check.is(50, () -> x.bestHome(14));
         // and nothing of a guard who is no longer there sticks to the new one
-        x.addGuard(99, 0, 1);
-        x.sick(1, 60);
-        check.is(0, () -> x.missed(1, 14));
+        x.addGuard(50, 20, NONE);
+        check.is(NONE, x::daysToOpen);
         x.undo();
+        check.is(50, () -> x.bestHome(14));
+        x.addGuard(50, 20, NONE);
+        check.is(2, () -> x.missed(1, 14));
         x.undo();
         check.is(50, () -> x.bestHome(14));
     }
