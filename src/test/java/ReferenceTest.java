@@ -183,7 +183,9 @@ public final class ReferenceTest {
         StringBuilder text = new StringBuilder();
         int orders = below(12) == 0 ? 30 : below(6);
         for (int i = 0; i < orders; i++) text.append(order());
-        if (text.length() > 0 && below(3) == 0) text.setCharAt(below(text.length()), (char) pick('d', 's', 'c', ';', ',', '0', '9', ' ', 'x', 127));
+        if (text.length() > 0 && below(3) == 0) {
+            text.setCharAt(below(text.length()), (char) pick('d', 's', 'c', ';', ',', '0', '9', ' ', 'x', 127));
+        }
         if (text.length() > 0 && below(4) == 0) text.setLength(below(text.length()));
         for (int i = 0; i < text.length(); i++) {
             int value = below(60) == 0 ? argument(127) : text.charAt(i);
